@@ -547,7 +547,7 @@ public final class EnvelopePlanner {
             }
             long fitting = amount;
             if (cap[e] != NO_CAP && cap[e] - balance[e] < amount) {
-                // a balance above its cap has a negative room, but loses nothing by that
+                // a balance above its cap takes nothing, but loses nothing by that either
                 fitting = cap[e] > balance[e] ? cap[e] - balance[e] : 0;
             }
             balance[e] += fitting;
@@ -1193,6 +1193,7 @@ public final class EnvelopePlanner {
                 }
                 if (day % DAYS_TO_ROLL_OVER == 0) {
                     rollOver();
+                    settle();
                 }
             }
             return missed - missedBefore;
@@ -1204,7 +1205,6 @@ public final class EnvelopePlanner {
                 pool += part;
                 released += part;
             }
-            settle();
         }
     }
 
