@@ -415,7 +415,7 @@ public final class EnvelopePlanner {
         return kept;
     }
 
-    /** Makes the steps of a branch, but for one, on the trial plan; answers the number of the refused one, or of all. */
+    /** Makes a branch's steps but for one on the trial plan; answers the number of the refused one, or how many there are. */
     private int replay(Branch source, int skipped, int stepsBefore) {
         for (int n = 0; n < source.stepCount; n++) {
             if (n == skipped) {

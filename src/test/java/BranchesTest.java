@@ -556,6 +556,7 @@ public final class BranchesTest {
             }
             Checks.eq("step(" + n + ", 4)", x.step(n, 4), 0);
         }
+        Checks.eq("branch(0, 1)", x.branch(0, 1), 8);
         Checks.eq("total(0)", x.total(0), 702);
         Checks.eq("total(5)", x.total(5), 31);
         Checks.eq("clearReason()", x.clearReason(), 0);
@@ -622,6 +623,31 @@ public final class BranchesTest {
         }
     }
 
+    private static void restoreStart() {
+        // the plan with which a branch began, and all numbers of a plan
+        EnvelopePlanner y = withMoney();
+        y.spend(0, 30);
+        y.addItem(1, 0, 1000000, 1);
+        y.advance(1);
+        y.fork();
+        y.select(1);
+        y.receive(1);
+        String plan = Checks.planOf(y);
+        y.save();
+        y.select(0);
+        y.discard(1);
+        y.advance(2);
+        y.spend(0, 40);
+        y.fork();
+        y.restore();
+        Checks.same("the plan", Checks.planOf(y), plan);
+        Checks.eq("undo()", y.undo(), 0);
+        Checks.eq("total(3)", y.total(3), 30);
+        Checks.eq("envelope(0, 4)", y.envelope(0, 4), 30);
+        Checks.eq("item(0, 5)", y.item(0, 5), 1);
+        Checks.eq("total(0)", y.total(0), 600);
+    }
+
     private static void save() {
         Checks.at("promise 38");
         EnvelopePlanner x = withMoney();
@@ -672,6 +698,7 @@ public final class BranchesTest {
             Checks.eq("total(0)", x.total(0), 600);
             x.restore();
         }
+        restoreStart();
         // the input, the kept reason and the conflict do not belong to it
         Checks.feed(x, "d");
         try {

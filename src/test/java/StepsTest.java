@@ -179,6 +179,13 @@ public final class StepsTest {
         Checks.eq("rule(0, 2)", x.rule(0, 2), 20);
         Checks.eq("rule(1, 2)", x.rule(1, 2), 30);
         Checks.refused(x, "rule(2, 0)", INDEX, () -> x.rule(2, 0));
+        EnvelopePlanner y = withEnvelopes(-1, -1, -1);
+        y.addRule(0, 0, 10);
+        y.addRule(0, 1, 20);
+        y.addRule(0, 2, 30);
+        y.removeRule(0);
+        Checks.eq("rule(0, 1)", y.rule(0, 1), 1);
+        Checks.eq("rule(1, 1)", y.rule(1, 1), 2);
         Checks.eq("addRule(4, 0, 40)", x.addRule(4, 0, 40), 2);
         Checks.eq("removeRule(2)", x.removeRule(2), 2);
         fill(x);
@@ -234,6 +241,11 @@ public final class StepsTest {
         Checks.eq("addLink(1, 0, 0, 7)", x.addLink(1, 0, 0, 7), 2);
         Checks.eq("link(2, 4)", x.link(2, 4), 0);
         Checks.eq("removeLink(2)", x.removeLink(2), 2);
+        Checks.eq("removeLink(1)", x.removeLink(1), 1);
+        Checks.eq("removeLink(0)", x.removeLink(0), 0);
+        Checks.eq("addLink(1, 0, 9000000, 7)", x.addLink(1, 0, 9000000, 7), 0);
+        Checks.eq("link(0, 4) of a new link", x.link(0, 4), 0);
+        Checks.eq("total(6)", x.total(6), 124);
         fill(x);
         Checks.step(x, "removeLink with 60 steps", STATE, 3, () -> x.removeLink(0));
     }
@@ -290,6 +302,17 @@ public final class StepsTest {
         Checks.eq("item(1, 4)", x.item(1, 4), 7);
         Checks.eq("removeItem(0)", x.removeItem(0), 1);
         Checks.eq("total(4)", x.total(4), 1);
+        x.addEnvelope(-1, 0);
+        x.addItem(1, 1, 800, 2);
+        x.advance(2);
+        Checks.eq("item(1, 5)", x.item(1, 5), 1);
+        Checks.eq("removeItem(0)", x.removeItem(0), 1);
+        Checks.eq("item(0, 1)", x.item(0, 1), 1);
+        Checks.eq("item(0, 5)", x.item(0, 5), 1);
+        Checks.eq("addItem(1, 0, 800, 1)", x.addItem(1, 0, 800, 1), 1);
+        x.advance(1);
+        Checks.eq("item(1, 5)", x.item(1, 5), 1);
+        x.removeItem(1);
         Checks.eq("addItem(1, 0, 1, 1)", x.addItem(1, 0, 1, 1), 1);
         Checks.eq("item(1, 5)", x.item(1, 5), 0);
         Checks.eq("removeItem(1)", x.removeItem(1), 1);
@@ -331,6 +354,10 @@ public final class StepsTest {
         x.setCap(1, 250);
         Checks.eq("receive(7) above the cap", x.receive(7), 7);
         balances(x, 107, 0, 300, 0);
+        EnvelopePlanner y = withEnvelopes(40);
+        y.addRule(3, 0, 0);
+        Checks.eq("receive(100)", y.receive(100), 60);
+        balances(y, 60, 40);
     }
 
     private static void receiveByShares() {
@@ -370,6 +397,11 @@ public final class StepsTest {
         w.addRule(4, 1, 1);
         Checks.eq("receive(10)", w.receive(10), 2);
         balances(w, 2, 6, 2);
+        // a single share takes all that is left
+        EnvelopePlanner u = withEnvelopes(-1);
+        u.addRule(4, 0, 1);
+        Checks.eq("receive(9)", u.receive(9), 0);
+        balances(u, 0, 9);
         // a share by large numbers keeps its cents
         EnvelopePlanner v = withEnvelopes(-1, -1);
         v.addRule(4, 0, 99);
@@ -521,6 +553,16 @@ public final class StepsTest {
         v.addLink(1, 2, 20, 100);
         v.move(-1, 0, 40);
         balances(v, 910, 10, 50, 30);
+        // a single cent is passed on, and uses the link up
+        EnvelopePlanner t = withEnvelopes(-1, -1, -1);
+        t.receive(12);
+        t.addLink(1, 2, 0, 100);
+        t.addLink(0, 1, 10, 50);
+        t.addLink(0, 1, 10, 100);
+        t.move(-1, 0, 12);
+        balances(t, 0, 10, 0, 2);
+        Checks.eq("link(1, 4)", t.link(1, 4), 1);
+        Checks.eq("link(2, 4)", t.link(2, 4), 1);
         // settling follows no step of the kinds 0 to 8
         EnvelopePlanner u = withEnvelopes(-1, -1);
         u.addRule(0, 0, 100);
