@@ -415,7 +415,7 @@ public final class EnvelopePlanner {
         return kept;
     }
 
-    /** Makes a branch's steps but for one on the trial plan; answers the number of the refused one, or how many there are. */
+    /** Makes a branch's steps, but for one, on the trial plan; answers the number of the refused one, or their count. */
     private int replay(Branch source, int skipped, int stepsBefore) {
         for (int n = 0; n < source.stepCount; n++) {
             if (n == skipped) {
@@ -1087,11 +1087,14 @@ public final class EnvelopePlanner {
 
         /** Divides what is left among rules of kind 4, and answers what their envelopes took of it. */
         private long shareOut(int first, int end, long left) {
+            if (first < 0) {
+                return 0;
+            }
             long weight = 0;
             for (int r = first; r < end && r < MAX_RULES; r++) {
                 weight += rules.number[r];
             }
-            if (first < 0 || weight <= 0) {
+            if (weight <= 0) {
                 return 0;
             }
             long cents = left;
