@@ -415,7 +415,7 @@ public final class EnvelopePlanner {
         return kept;
     }
 
-    /** Makes a branch's steps, but for one, on the trial plan; answers the number of the refused one, or their count. */
+    /** Makes a branch's steps but for one on the trial plan; answers the number of a refused one, or their count. */
     private int replay(Branch source, int skipped, int stepsBefore) {
         for (int n = 0; n < source.stepCount; n++) {
             if (n == skipped) {
