@@ -132,7 +132,7 @@ public final class EnvelopePlanner {
         return answerTo(tryStep(ADVANCE, days, 0, 0, 0));
     }
 
-    /** Makes a step on the present branch, or keeps and answers the reason why not. */
+    /** A refusal is answered, not thrown, as readPlan ends with it but answers all the same. */
     private int tryStep(int kind, int a, int b, int c, int d) {
         Branch here = branches.here();
         int refusal = here.plan.refusalOf(kind, a, b, c, d, here.stepCount >= MAX_STEPS);
@@ -294,7 +294,7 @@ public final class EnvelopePlanner {
     }
 
     public int select(int branch) throws NoSuchElementException {
-        if (branches.find(branch) == null) {
+        if (branches.branchOrNull(branch) == null) {
             throw new NoSuchElementException("no such branch");
         }
         int previous = branches.present;
@@ -303,7 +303,7 @@ public final class EnvelopePlanner {
     }
 
     public int discard(int branch) throws NoSuchElementException, IllegalStateException {
-        Branch leaf = branches.find(branch);
+        Branch leaf = branches.branchOrNull(branch);
         if (leaf == null) {
             throw new NoSuchElementException("no such branch");
         }
@@ -316,16 +316,16 @@ public final class EnvelopePlanner {
 
     public int merge(int branch)
             throws NoSuchElementException, IllegalStateException, UnsupportedOperationException {
-        Branch leaf = branches.find(branch);
+        Branch leaf = branches.branchOrNull(branch);
         if (leaf == null) {
             throw new NoSuchElementException("no such branch");
         }
-        Branch parent = branches.find(leaf.parent);
+        Branch parent = branches.branchOrNull(leaf.parent);
         if (parent == null || !branches.isRemovable(branch)) {
             throw new IllegalStateException("the branch cannot be merged");
         }
         trial.copyFrom(parent.plan);
-        int made = replay(leaf, NO_STEP, parent.stepCount);
+        int made = replayUntilRefused(leaf, NO_STEP, parent.stepCount);
         if (made < leaf.stepCount) {
             conflictStep = made;
             conflictReason = refusalOnTrial(leaf, made, parent.stepCount + made);
@@ -345,7 +345,7 @@ public final class EnvelopePlanner {
     }
 
     public long branch(int branch, int what) throws NoSuchElementException, IllegalArgumentException {
-        Branch found = branches.find(branch);
+        Branch found = branches.branchOrNull(branch);
         if (found == null) {
             throw new NoSuchElementException("no such branch");
         }
@@ -368,8 +368,8 @@ public final class EnvelopePlanner {
 
     public long difference(int one, int other, int envelope)
             throws NoSuchElementException, IndexOutOfBoundsException {
-        Branch first = branches.find(one);
-        Branch second = branches.find(other);
+        Branch first = branches.branchOrNull(one);
+        Branch second = branches.branchOrNull(other);
         if (first == null || second == null) {
             throw new NoSuchElementException("no such branch");
         }
@@ -391,7 +391,7 @@ public final class EnvelopePlanner {
         }
         int last = here.stepCount - 1;
         trial.copyFrom(here.start);
-        replay(here, last, 0);
+        replayUntilRefused(here, last, 0);
         here.plan.copyFrom(trial);
         here.forget(last);
         return here.stepCount;
@@ -401,7 +401,7 @@ public final class EnvelopePlanner {
         Branch here = branches.here();
         requirePart(isWithin(step, 0, here.stepCount - 2));
         trial.copyFrom(here.start);
-        if (replay(here, step, 0) < here.stepCount) {
+        if (replayUntilRefused(here, step, 0) < here.stepCount) {
             throw new UnsupportedOperationException("a later step would be refused");
         }
         here.plan.copyFrom(trial);
@@ -415,8 +415,8 @@ public final class EnvelopePlanner {
         return kept;
     }
 
-    /** Makes a branch's steps but for one on the trial plan; answers the number of a refused one, or their count. */
-    private int replay(Branch source, int skipped, int stepsBefore) {
+    /** On the trial plan, as a refused step is to leave all branches as they are. */
+    private int replayUntilRefused(Branch source, int skipped, int stepsBefore) {
         for (int n = 0; n < source.stepCount; n++) {
             if (n == skipped) {
                 continue;
@@ -540,8 +540,7 @@ public final class EnvelopePlanner {
             return e >= 0 && e < count && e < MAX_ENVELOPES ? balance[e] : 0;
         }
 
-        /** Puts in what fits, and answers how much that is. */
-        long put(int e, long amount) {
+        long putWhatFits(int e, long amount) {
             if (e < 0 || e >= count || e >= MAX_ENVELOPES) {
                 return 0;
             }
@@ -560,8 +559,7 @@ public final class EnvelopePlanner {
             }
         }
 
-        /** Takes from the balance what is there of the amount, and answers how much that is. */
-        long drain(int e, long amount) {
+        long spendWhatIsThere(int e, long amount) {
             if (e < 0 || e >= count || e >= MAX_ENVELOPES) {
                 return 0;
             }
@@ -571,7 +569,6 @@ public final class EnvelopePlanner {
             return part;
         }
 
-        /** Takes out what the envelope releases by rolling over, and answers how much that is. */
         long release(int e) {
             if (e < 0 || e >= count || e >= MAX_ENVELOPES || rollover[e] == KEEPS) {
                 return 0;
@@ -651,7 +648,6 @@ public final class EnvelopePlanner {
             return count;
         }
 
-        /** Answers the rule behind the rules of kind 4 that begin with this one. */
         int endOfShares(int first) {
             int end = first;
             while (end >= 0 && end < count && end < MAX_RULES && kind[end] == SHARE) {
@@ -890,7 +886,7 @@ public final class EnvelopePlanner {
             }
         }
 
-        /** Answers why a step is refused, in the order in which its call checks that, or NO_REASON. */
+        /** The order of these checks is that of the exceptions that the calls list, as the first one counts. */
         int refusalOf(int kind, int a, int b, int c, int d, boolean hasAllSteps) {
             if (!namesParts(kind, a, b)) {
                 return NO_SUCH_PART;
@@ -999,7 +995,7 @@ public final class EnvelopePlanner {
             }
         }
 
-        /** Makes a step that is allowed, and answers what its call returns. */
+        /** Checks nothing, as refusalOf is asked ahead of it, so that no step ends halfway. */
         int perform(int kind, int a, int b, int c, int d) {
             switch (kind) {
                 case ADD_ENVELOPE:
@@ -1044,7 +1040,6 @@ public final class EnvelopePlanner {
             return (int) part;
         }
 
-        /** Applies the rules to an income, and answers what comes to the pool. */
         long takeIncome(int amount) {
             received += amount;
             long left = amount;
@@ -1055,7 +1050,7 @@ public final class EnvelopePlanner {
                     left -= shareOut(r, end, left);
                     r = end > r ? end : r + 1;
                 } else {
-                    left -= envelopes.put(rules.target[r], portionFor(r, amount, left));
+                    left -= envelopes.putWhatFits(rules.target[r], portionFor(r, amount, left));
                     r++;
                 }
             }
@@ -1085,7 +1080,6 @@ public final class EnvelopePlanner {
             return wanted < left ? wanted : left;
         }
 
-        /** Divides what is left among rules of kind 4, and answers what their envelopes took of it. */
         private long shareOut(int first, int end, long left) {
             if (first < 0) {
                 return 0;
@@ -1108,7 +1102,7 @@ public final class EnvelopePlanner {
                     part++;
                     cents--;
                 }
-                taken += envelopes.put(rules.target[r], part);
+                taken += envelopes.putWhatFits(rules.target[r], part);
             }
             return taken;
         }
@@ -1117,9 +1111,8 @@ public final class EnvelopePlanner {
             return envelopes.balanceOf(e) + pool >= amount;
         }
 
-        /** Spends an amount that can be paid, and answers the part from the pool. */
         long pay(int e, int amount) {
-            long missing = amount - envelopes.drain(e, amount);
+            long missing = amount - envelopes.spendWhatIsThere(e, amount);
             pool -= missing;
             spent += amount;
             return missing;
@@ -1130,7 +1123,7 @@ public final class EnvelopePlanner {
             if (to == POOL) {
                 pool += part;
             } else {
-                part = envelopes.put(to, amount);
+                part = envelopes.putWhatFits(to, amount);
             }
             if (from == POOL) {
                 pool -= part;
@@ -1140,7 +1133,6 @@ public final class EnvelopePlanner {
             return part;
         }
 
-        /** Lets the links pass on, each at most once, until a round passes nothing on. */
         void settle() {
             int done = 0;
             // every round but the last one uses up a link
@@ -1166,14 +1158,13 @@ public final class EnvelopePlanner {
             if (excess <= 0) {
                 return false;
             }
-            long part = envelopes.put(links.target[k], excess * links.percentage[k] / 100);
+            long part = envelopes.putWhatFits(links.target[k], excess * links.percentage[k] / 100);
             envelopes.take(links.source[k], part);
             links.passed[k] += part;
             passed += part;
             return part > 0;
         }
 
-        /** Lets days pass, and answers how many items were missed in them. */
         int passDays(int days) {
             int missedBefore = missed;
             for (int n = 0; n < days; n++) {
@@ -1289,8 +1280,7 @@ public final class EnvelopePlanner {
             }
         }
 
-        /** Answers the branch, or null if there is none. */
-        Branch find(int number) {
+        Branch branchOrNull(int number) {
             if (number < 0 || number >= MAX_BRANCHES) {
                 return null;
             }
@@ -1299,14 +1289,14 @@ public final class EnvelopePlanner {
         }
 
         Branch here() {
-            Branch found = find(present);
+            Branch found = branchOrNull(present);
             return found != null ? found : root;
         }
 
         int count() {
             int count = 0;
             for (int n = 0; n < MAX_BRANCHES; n++) {
-                if (find(n) != null) {
+                if (branchOrNull(n) != null) {
                     count++;
                 }
             }
@@ -1316,7 +1306,7 @@ public final class EnvelopePlanner {
         int childrenOf(int number) {
             int children = 0;
             for (int n = 0; n < MAX_BRANCHES; n++) {
-                Branch child = find(n);
+                Branch child = branchOrNull(n);
                 if (child != null && child.parent == number) {
                     children++;
                 }
@@ -1330,7 +1320,7 @@ public final class EnvelopePlanner {
 
         int firstFree() {
             for (int n = 0; n < MAX_BRANCHES; n++) {
-                if (find(n) == null) {
+                if (branchOrNull(n) == null) {
                     return n;
                 }
             }
@@ -1359,7 +1349,7 @@ public final class EnvelopePlanner {
         }
     }
 
-    /** The input, and the commands that it was read as. */
+    /** Keeps the commands until all of the input is read, as none is carried out if there is an error. */
     private static final class Reader {
         private static final int WIDTH = 4;
         private static final int MAX_DIGITS = 7;
@@ -1388,7 +1378,6 @@ public final class EnvelopePlanner {
             return commands[command * WIDTH + what];
         }
 
-        /** Reads the input and empties it; answers the error position, or NO_ERROR. */
         int readAll() {
             at = 0;
             commandCount = 0;
