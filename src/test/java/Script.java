@@ -36,7 +36,7 @@ final class Script {
             if (call.due != null) {
                 Checks.same(place, got, call.due);
             }
-            Checks.same(place + " of the slow model", answerOf(model, call), got);
+            Checks.same(place + " of the slow model", answerOf(model, call.name, call.arguments), got);
             if (got.startsWith("throws.")) {
                 changedNothing(calls, n);
             } else if (FORECASTS.contains(call.name)) {
@@ -45,10 +45,10 @@ final class Script {
         }
     }
 
-    private static String answerOf(SlowModel model, Call call) {
-        int[] a = Arrays.copyOf(call.arguments, 4);
+    static String answerOf(SlowModel model, String call, int[] arguments) {
+        int[] a = Arrays.copyOf(arguments, 4);
         try {
-            return Calls.ofModel(model, call.name, a[0], a[1], a[2], a[3]);
+            return Calls.ofModel(model, call, a[0], a[1], a[2], a[3]);
         } catch (RuntimeException thrown) {
             return "throws." + thrown.getClass().getSimpleName();
         }
@@ -136,7 +136,7 @@ final class Script {
         calls.add(new Call(name, numbers, answer(due), reasonOf(due), name + "(" + arguments + ")"));
     }
 
-    private static int numberOf(String argument) {
+    static int numberOf(String argument) {
         return switch (argument) {
             case "true" -> 1;
             case "false" -> 0;
