@@ -2,6 +2,7 @@
 public final class BranchEdgesTest {
     public static void main(String[] args) {
         fork();
+        branchZero();
         forkBeginsWithThePresentPlan();
         select();
         discard();
@@ -42,6 +43,17 @@ public final class BranchEdgesTest {
             """);
         Script.run("Promise 25: a merged branch is free, too", """
             fork() = 1 fork() = 2 merge(1) = 0 fork() = 1 branch(0, 2) = 2
+            """);
+    }
+
+    private static void branchZero() {
+        Script.run("Branches: branch 0 always exists, has no parent, and began with an empty plan", """
+            branch(0, 0) = -1 select(0) = 0 undo() = throws.State
+            addEnvelope(-1, 0) = 0 receive(5) = 5 save() = 1 fork() = 1 select(1) = 0 advance(7) = 0 receive(1) = 1
+            discard(0) = throws.State merge(0) = throws.State branch(0, 0) = -1 select(0) = 1 merge(1) = 2
+            branch(0, 0) = -1 branch(0, 1) = 4 restore() = 1 branch(0, 0) = -1 discard(0) = throws.State
+            undo() = 1 undo() = 0 undo() = throws.State
+            total(0) = 0 total(2) = 0 total(5) = 0 total(8) = 0
             """);
     }
 

@@ -2,6 +2,7 @@
 public final class PlanTermsTest {
     public static void main(String[] args) {
         plans();
+        neverNegative();
         fullPlan();
         removedRules();
         removedLinks();
@@ -34,6 +35,18 @@ public final class PlanTermsTest {
             calls.append("addEnvelope(").append(kind).append(") = ").append(e).append("\n");
         }
         return calls.toString();
+    }
+
+    private static void neverNegative() {
+        Script.run("Plans: a balance is never negative: all of it is spent, moved and passed on", """
+            addEnvelope(-1, 1) = 0 addEnvelope(-1, 2) = 1 receive(100) = 100
+            move(-1, 0, 30) = 30 spend(0, 31) = 1 envelope(0, 0) = 0
+            spend(0, 70) = throws.State4 envelope(0, 0) = 0 total(0) = 69
+            move(-1, 0, 9) = 9 move(0, 1, 10) = throws.State4 move(0, 1, 9) = 9 envelope(0, 0) = 0
+            addLink(1, 0, 0, 100) = 0 receive(1) = 1 envelope(1, 0) = 0 envelope(0, 0) = 9
+            addItem(1, 0, 10, 30) = 0 advance(30) = 0 envelope(0, 0) = 0 envelope(1, 0) = 0 total(0) = 60
+            advance(60) = 0 envelope(0, 0) = 0 envelope(1, 0) = 0 total(0) = 40 total(7) = 0
+            """);
     }
 
     private static void plans() {
@@ -629,6 +642,13 @@ public final class PlanTermsTest {
             advance(1) = 2 envelope(0, 0) = 10
             addItem(1, 0, 1, 1) = 2
             advance(1) = 2 envelope(0, 0) = 0 envelope(1, 0) = 9
+            """);
+        Script.run("Days: it is missed once more on each day on which it cannot be spent, in all numbers that tell of it", """
+            addEnvelope(-1, 0) = 0 addItem(1, 0, 10, 3) = 0 addItem(1, 0, 20, 5) = 1
+            advance(30) = 16 item(0, 5) = 10 item(1, 5) = 6 total(4) = 16
+            forecast(15, 4) = 24 forecast(2, 4) = 16 forecast(2, 9) = 0 forecast(15, 9) = 3
+            removeItem(0) = 1 item(0, 5) = 6 total(4) = 16
+            advance(5) = 1 item(0, 5) = 7 total(4) = 17
             """);
         Script.run("Days: the number of items that were missed in these days", """
             addEnvelope(-1, 0) = 0 addItem(1, 0, 10, 1) = 0 addItem(1, 0, 10, 2) = 1

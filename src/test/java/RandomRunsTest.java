@@ -6,6 +6,8 @@ import java.util.Random;
 public final class RandomRunsTest {
     private static final String[] CALLS = Calls.NAMES;
     private static final int RUNS = 240;
+    /** The last calls of each run are those of moneyIsWhereItBelongs. */
+    private static final int RANDOM_CALLS = 497;
 
     private final Random random;
     private final int mood;
@@ -45,7 +47,7 @@ public final class RandomRunsTest {
     }
 
     private void run(int seed) {
-        for (int call = 1; call <= 512; call++) {
+        for (int call = 1; call <= RANDOM_CALLS; call++) {
             if (waiting.isEmpty() && random.nextInt(12) == 0) {
                 planAhead();
             }
@@ -61,6 +63,18 @@ public final class RandomRunsTest {
                 return;
             }
             Checks.eq(text, 0, 0);
+        }
+        moneyIsWhereItBelongs();
+    }
+
+    /** No rule of the document makes money or loses it, but receiving and spending. */
+    private void moneyIsWhereItBelongs() {
+        long pool = x.total(0);
+        Checks.eq("the pool is negative", pool < 0 ? 1 : 0, 0);
+        Checks.eq("all money", pool + x.total(1), x.total(2) - x.total(3));
+        long envelopes = x.total(8);
+        for (int e = 0; e < envelopes; e++) {
+            Checks.eq("the balance of envelope " + e + " is negative", x.envelope(e, 0) < 0 ? 1 : 0, 0);
         }
     }
 
@@ -147,7 +161,7 @@ public final class RandomRunsTest {
     }
 
     private int envelopeNumber() {
-        return near(0, (int) Math.max(0, x.total(8) - 1));
+        return near(0, (int) Math.max(0, y.total(8) - 1));
     }
 
     private int place() {
